@@ -18,6 +18,7 @@ public final class DoneTest {
         firstOpenInOrder();
         death();
         deathTogether();
+        heirInTheLastYear();
         deathOfTwoIntoOne();
         give();
         shorten();
@@ -130,6 +131,14 @@ public final class DoneTest {
         x.year(1);
         due("THE CAT's NOT is not KEPT", 0, x.count(4));
         held("behind what THE CAT holds", x, -1, "1 0");
+    }
+
+    private static void heirInTheLastYear() {
+        PromiseNames x = Check.told("man 1 4;man 1 3 0;will 1 40;shun 1 9;ever 1 9");
+        x.year(3);
+        held("HEIR of SPAN 1", x, 0, "0 2");
+        x.year(1);
+        held("HEIR dead", x, -1, "0 2");
     }
 
     private static void deathOfTwoIntoOne() {

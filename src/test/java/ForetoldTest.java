@@ -82,6 +82,10 @@ public final class ForetoldTest {
         due("just(0), ahead of what it inherits", -1, x.just(0));
         x.give(0, 1);
         due("just(0), free for now", 0, x.just(0));
+        x = Check.told("man 1 4;will 0 3");
+        due("just(0), with one YEAR left", 3, x.just(0));
+        x = Check.told("man 1 3;will 0 3");
+        due("just(0), with none left", -1, x.just(0));
     }
 
     private static void stuck() {

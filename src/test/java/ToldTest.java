@@ -12,6 +12,7 @@ public final class ToldTest {
         erase();
         faults();
         faultsByWhatWasTold();
+        faultTwice();
         clausesAtMost();
         parish();
         laterTexts();
@@ -142,6 +143,11 @@ public final class ToldTest {
         fault("man 1 1;parish;will 0 1", 20);
         fault("man 1 1;will 0 1;will 0 1;parish;man 1 1;will 0 1;strife 0 1", 59);
         fault("man1 1;will0 1;pay0 1a", -1);
+        fault("ban 1 1", 0);
+        fault("mad 1 1", 0);
+        fault("strife", 6);
+        fault("strife;parish", 6);
+        fault("man 1 1;will;parish", 12);
     }
 
     private static void faultsByWhatWasTold() {
@@ -165,6 +171,17 @@ public final class ToldTest {
         x.erase();
         Check.write(x, "strife 9 8");
         due("fault() of strife by an earlier text", -1, x.fault());
+    }
+
+    private static void faultTwice() {
+        PromiseNames x = new PromiseNames();
+        Check.write(x, "man 1 1;man 1 1;man 1 1;will 2 1;will 2 1;will 2 1;will 2 1;will 2 1;will 2 1");
+        due("fault()", -1, x.fault());
+        due("fault() again", -1, x.fault());
+        due("parish() behind it", 9, x.parish());
+        due("PEOPLE", 3, x.count(0));
+        Check.write(x, "will 3 1");
+        due("fault() by what was told alone", 5, x.fault());
     }
 
     private static void clausesAtMost() {
