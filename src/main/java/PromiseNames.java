@@ -575,7 +575,7 @@ public final class PromiseNames {
 
         private final int[] letters = new int[MOST_LETTERS];
         int length, clauses;
-        private int sort, start, end, number;
+        private int sort, start, end;
 
         boolean addLetter(int letter) {
             if (length >= MOST_LETTERS) {
@@ -694,7 +694,7 @@ public final class PromiseNames {
                 return false;
             }
             int one = takeNumber();
-            if (!isNumber(0, draft.promises - 1) || number == one) {
+            if (!isNumber(0, draft.promises - 1) || numberHere() == one) {
                 return false;
             }
             draft.addStrife(one, takeNumber());
@@ -720,42 +720,38 @@ public final class PromiseNames {
             while (start < length && letters[start] == ' ') {
                 start++;
             }
-            end = start;
-            if (start >= length) {
-                sort = END;
-            } else if (isSmall(letters[start])) {
-                sort = WORD;
-                while (end < length && isSmall(letters[end])) {
-                    end++;
-                }
-            } else if (isDigit(letters[start])) {
-                sort = NUMBER;
-                passDigits();
-            } else {
-                sort = SIGN;
+            end = Math.min(start + 1, length);
+            sort = start < length ? sortOf(letters[start]) : END;
+            while (sort != SIGN && end < length && sortOf(letters[end]) == sort) {
                 end++;
             }
+        }
+
+        /** Compares by itself: reading is the deepest of all calls, and LANGUAGE.md lets none go deeper than eight. */
+        private static int sortOf(int letter) {
+            if (letter >= 'a' && letter <= 'z') {
+                return WORD;
+            }
+            return letter >= '0' && letter <= '9' ? NUMBER : SIGN;
         }
 
         /** Digits beyond the second do not count: such a number cannot stand anyway, and a long one would overflow. */
-        private void passDigits() {
-            number = 0;
-            while (end < length && isDigit(letters[end])) {
-                if (end - start < MOST_DIGITS) {
-                    number = number * 10 + letters[end] - '0';
-                }
-                end++;
+        private int numberHere() {
+            int number = 0;
+            for (int i = start; i < end && i < start + MOST_DIGITS; i++) {
+                number = number * 10 + letters[i] - '0';
             }
+            return number;
         }
 
         private int takeNumber() {
-            int taken = number;
+            int taken = numberHere();
             toNextToken();
             return taken;
         }
 
         private boolean isNumber(int least, int most) {
-            return sort == NUMBER && end - start <= MOST_DIGITS && isWithin(number, least, most);
+            return sort == NUMBER && end - start <= MOST_DIGITS && isWithin(numberHere(), least, most);
         }
 
         private boolean isSign(char sign) {
@@ -772,14 +768,6 @@ public final class PromiseNames {
                 }
             }
             return true;
-        }
-
-        private static boolean isSmall(int letter) {
-            return isWithin(letter, 'a', 'z');
-        }
-
-        private static boolean isDigit(int letter) {
-            return isWithin(letter, '0', '9');
         }
     }
 

@@ -7,10 +7,8 @@ import java.nio.file.Files;
 import java.nio.file.Path;
 import java.util.Set;
 import java.util.TreeSet;
-import java.util.regex.Matcher;
-import java.util.regex.Pattern;
 
-/** The public face, and those rules of LANGUAGE.md that can be looked at from outside. */
+/** The public face, as the document writes it, and no more. */
 public final class FaceTest {
     private static final Check CHECK = new Check();
     private static final String METHODS = "ahead1 as2 attempt0 back1 behind3 bind4 count1 drop1 enter5 erase0 fault0 "
@@ -31,8 +29,7 @@ public final class FaceTest {
                 Modifier.isStatic(inside.getModifiers()) && !Modifier.isPublic(inside.getModifiers()));
             namesInside(face, inside);
         }
-        CHECK.holds("twelve classes at most", face.getDeclaredClasses().length + 1 <= 12);
-        source();
+        faceAsWritten();
         CHECK.end();
     }
 
@@ -58,11 +55,6 @@ public final class FaceTest {
         for (Method m : inside.getDeclaredMethods()) {
             CHECK.holds(m + " bears no public name", !isPublicName(face, m.getName()));
         }
-        int fields = 0;
-        for (Field f : inside.getDeclaredFields()) {
-            fields += Modifier.isStatic(f.getModifiers()) ? 0 : 1;
-        }
-        CHECK.holds(inside + " has twenty fields at most", fields <= 20);
     }
 
     private static boolean isPublicName(Class<?> face, String name) {
@@ -91,20 +83,14 @@ public final class FaceTest {
             all.length == 1 && Modifier.isPublic(all[0].getModifiers()) && all[0].getParameterCount() == 0);
     }
 
-    /** The tests run in the project's root, where .ci/run goes first. */
-    private static void source() throws IOException {
-        String text = Files.readString(Path.of("src/main/java/PromiseNames.java"));
-        String code = text.replaceAll("(?s)/\\*.*?\\*/", "").replaceAll("//[^\n]*", "");
-        String[] banned = {"throw", "throws", "try", "catch", "synchronized", "assert", "import", "package", "protected",
-            "hashCode", "toString", "->", "::", "new int[^\\[]*\\(\\)\\s*\\{"};
-        for (String word : banned) {
-            Matcher m = Pattern.compile(word.matches("\\w+") ? "\\b" + word + "\\b" : word).matcher(code);
-            CHECK.holds("the source has no " + word, !m.find());
-        }
-        for (int i = 0; i < text.length(); i++) {
-            if (text.charAt(i) > 127) {
-                CHECK.holds("the source's sign " + i + " is plain", false);
-            }
+    /** Every line of the document's face stands so in the source. The tests run in the project's root. */
+    private static void faceAsWritten() throws IOException {
+        String document = Files.readString(Path.of("../shared/DOC.md"));
+        String source = Files.readString(Path.of("src/main/java/PromiseNames.java"));
+        int begin = document.indexOf("```java\n") + 8;
+        for (String line : document.substring(begin, document.indexOf("```", begin)).split("\n")) {
+            String due = line.endsWith(");") ? line.substring(0, line.length() - 1) + " {" : line;
+            CHECK.holds("the source has the line: " + due, source.contains(due + "\n"));
         }
     }
 }
